@@ -21,6 +21,7 @@ public final class BusRack {
     private static final int SPACES = 2;
     /** A bus has a part for each region of each slot; a bridge is the first part of its slot. */
     private static final int PARTS = SLOTS * REGIONS;
+    private static final int BUSES = ROOT + 1;
     private static final int DEEPEST = 5;
     private static final int LAST_BUS_NUMBER = 15;
     private static final int WIDEST_GAP = 2;
@@ -28,6 +29,8 @@ public final class BusRack {
     private static final int TEXT_ROOM = 80;
     private static final int HISTORY_ROOM = 4;
     private static final int FAULT_BASE = -100;
+    /** Far above what all regions and reserves of a rack take together. */
+    private static final int NO_LIMIT = 1000000;
     private static final int FIRST_SIGN = 32;
     private static final int LAST_SIGN = 126;
 
@@ -39,8 +42,7 @@ public final class BusRack {
     private final Rack snapshot = new Rack();
     private boolean hasSnapshot = false;
     private final History history = new History();
-    private final Room room = new Room(rack);
-    private final Layout layout = new Layout(rack);
+    private final Layout layout = new Layout();
     private final Reader reader = new Reader();
     private final char[] text = new char[TEXT_ROOM];
     private int textLength = 0;
@@ -136,8 +138,10 @@ public final class BusRack {
             rack.release(device);
         }
         Numbers.numberAll(rack);
-        layout.placeAll(MEMORY);
-        layout.placeAll(PORTS);
+        for (int space = 0; space < SPACES; space++) {
+            layout.measure(rack, space);
+            layout.place(rack, ROOT, space);
+        }
         return rack.countUnplaced();
     }
 
@@ -148,36 +152,17 @@ public final class BusRack {
         if (rack.numberOf(rack.buses[device]) == NONE) {
             return NOT_POSSIBLE;
         }
-        if (rack.isBridge(device)) {
-            return attachBridge(device);
-        }
+        return rack.isCard(device) ? attachCard(device) : attachBridge(device);
+    }
+
+    private int attachCard(int card) {
         history.record(rack);
-        return placeRegions(device);
-    }
-
-    private int attachBridge(int bridge) {
-        if (!rack.isNumbered(bridge)) {
-            int number = Numbers.leastFreeFor(rack, bridge);
-            if (number == NONE) {
-                return NOT_POSSIBLE;
-            }
-            history.record(rack);
-            rack.firstNumbers[bridge] = number;
-            rack.lastNumbers[bridge] = number;
-        } else {
-            history.record(rack);
-        }
-        return placeWindow(bridge, MEMORY) + placeWindow(bridge, PORTS);
-    }
-
-    private int placeRegions(int card) {
-        int bus = rack.buses[card];
         int placed = 0;
         for (int region = 0; region < REGIONS; region++) {
             int index = regionIndex(card, region);
             int size = rack.regionSizes[index];
             if (size > 0 && rack.regionBases[index] == NONE) {
-                int start = room.fitIn(bus, rack.regionSpaces[index], size, size);
+                int start = Room.fitIn(rack, rack.buses[card], rack.regionSpaces[index], size, size);
                 rack.regionBases[index] = start;
                 placed += start == NONE ? 0 : 1;
             }
@@ -185,20 +170,33 @@ public final class BusRack {
         return placed;
     }
 
-    private int placeWindow(int bridge, int space) {
-        if (rack.hasWindow(bridge, space)) {
+    private int attachBridge(int bridge) {
+        boolean isNew = !rack.isNumbered(bridge);
+        int number = isNew ? Numbers.leastFor(rack, bridge) : rack.firstNumbers[bridge];
+        if (number == NONE) {
+            return NOT_POSSIBLE;
+        }
+        history.record(rack);
+        if (isNew) {
+            rack.firstNumbers[bridge] = number;
+            rack.lastNumbers[bridge] = number;
+        }
+        return attachWindow(bridge, MEMORY) + attachWindow(bridge, PORTS);
+    }
+
+    /** Where the bridge has no window, nothing below it has a base or a window. */
+    private int attachWindow(int bridge, int space) {
+        layout.measure(rack, space);
+        int needed = layout.needs[bridge];
+        if (needed == 0 || rack.windowBases[windowIndex(bridge, space)] != NONE) {
             return 0;
         }
-        int needed = layout.measureBridge(bridge, space);
-        if (needed == 0) {
-            return 0;
-        }
-        int alignment = layout.alignmentOf(bridge);
-        int start = room.fitIn(rack.buses[bridge], space, needed, alignment);
+        int start = Room.fitIn(rack, rack.buses[bridge], space, needed, layout.alignments[bridge]);
         if (start == NONE) {
             return 0;
         }
-        return layout.placeBridge(bridge, space, start);
+        rack.openWindow(bridge, space, start, needed);
+        return layout.place(rack, bridge, space);
     }
 
     public int detach(int device) {
@@ -343,7 +341,11 @@ public final class BusRack {
         if (!rack.isBridge(bridge)) {
             return NO_SUCH;
         }
-        return isSpace(space) ? layout.measureBridge(bridge, space) : BAD_VALUE;
+        if (!isSpace(space)) {
+            return BAD_VALUE;
+        }
+        layout.measure(rack, space);
+        return layout.needs[bridge];
     }
 
     public int unplaced() {
@@ -370,7 +372,7 @@ public final class BusRack {
         if (!rack.isBus(bus)) {
             return NO_SUCH;
         }
-        return isSpace(space) ? room.countFree(bus, space) : BAD_VALUE;
+        return isSpace(space) ? Room.countFree(rack, bus, space) : BAD_VALUE;
     }
 
     public int firstFit(int bus, int space, int size) {
@@ -380,7 +382,7 @@ public final class BusRack {
         if (!isSpace(space) || !isSizeOf(space, size)) {
             return BAD_VALUE;
         }
-        return room.fitIn(bus, space, size, size);
+        return Room.fitIn(rack, bus, space, size, size);
     }
 
     // ---- ranges and the facts of the spaces
@@ -445,7 +447,7 @@ public final class BusRack {
         final int[] buses = new int[DEVICES];
         final int[] slots = new int[DEVICES];
         /** The device in each slot of each bus, NONE in an empty one. */
-        final int[] held = new int[(ROOT + 1) * SLOTS];
+        final int[] held = new int[BUSES * SLOTS];
         final int[] regionSpaces = new int[DEVICES * REGIONS];
         final int[] regionSizes = new int[DEVICES * REGIONS];
         final int[] regionBases = new int[DEVICES * REGIONS];
@@ -479,7 +481,7 @@ public final class BusRack {
             System.arraycopy(other.kinds, 0, kinds, 0, DEVICES);
             System.arraycopy(other.buses, 0, buses, 0, DEVICES);
             System.arraycopy(other.slots, 0, slots, 0, DEVICES);
-            System.arraycopy(other.held, 0, held, 0, (ROOT + 1) * SLOTS);
+            System.arraycopy(other.held, 0, held, 0, BUSES * SLOTS);
             System.arraycopy(other.regionSpaces, 0, regionSpaces, 0, DEVICES * REGIONS);
             System.arraycopy(other.regionSizes, 0, regionSizes, 0, DEVICES * REGIONS);
             System.arraycopy(other.regionBases, 0, regionBases, 0, DEVICES * REGIONS);
@@ -504,23 +506,16 @@ public final class BusRack {
         }
 
         boolean isNumbered(int device) {
-            return isBridge(device) && firstNumbers[device] != NONE;
+            return device >= 0 && device < DEVICES && firstNumbers[device] != NONE;
         }
 
         boolean isBus(int bus) {
             return bus == ROOT || isBridge(bus);
         }
 
-        boolean hasWindow(int bridge, int space) {
-            return windowBases[windowIndex(bridge, space)] != NONE;
-        }
-
         int deviceAt(int bus, int slot) {
-            return isBus(bus) && isSlot(slot) ? held[bus * SLOTS + slot] : NONE;
-        }
-
-        int deviceOfPart(int bus, int part) {
-            return deviceAt(bus, part / REGIONS);
+            boolean isPlace = bus >= 0 && bus < BUSES && slot >= 0 && slot < SLOTS;
+            return isPlace ? held[bus * SLOTS + slot] : NONE;
         }
 
         int leastFreeNumber() {
@@ -557,6 +552,11 @@ public final class BusRack {
             regionSpaces[index] = space;
             regionSizes[index] = size;
             regionBases[index] = NONE;
+        }
+
+        void openWindow(int bridge, int space, int start, int size) {
+            windowBases[windowIndex(bridge, space)] = start;
+            windowSizes[windowIndex(bridge, space)] = size;
         }
 
         /** Takes away what numbering and placing gave; answers how many regions lose a base. */
@@ -732,7 +732,7 @@ public final class BusRack {
         }
 
         /** The least number for a bridge that is not numbered, NONE if there is none. */
-        static int leastFreeFor(Rack rack, int bridge) {
+        static int leastFor(Rack rack, int bridge) {
             int bus = rack.buses[bridge];
             int last = rack.isBridge(bus) ? rack.lastNumbers[bus] : LAST_BUS_NUMBER;
             for (int number = rack.numberOf(bus) + 1; number <= last; number++) {
@@ -757,23 +757,17 @@ public final class BusRack {
 
     /** The free room of the buses. */
     private static final class Room {
-        private final Rack rack;
-
-        Room(Rack rack) {
-            this.rack = rack;
-        }
-
-        private int startOf(int bus, int space) {
+        static int startOf(Rack rack, int bus, int space) {
             return rack.isBridge(bus) ? rack.windowBases[windowIndex(bus, space)] : 0;
         }
 
-        private int extentOf(int bus, int space) {
+        private static int extentOf(Rack rack, int bus, int space) {
             return rack.isBridge(bus) ? rack.windowSizes[windowIndex(bus, space)] : addressesOf(space);
         }
 
         /** Where the part covers addresses of the space; NONE if it covers none. */
-        private int coverStart(int bus, int space, int part) {
-            int device = rack.deviceOfPart(bus, part);
+        private static int coverStart(Rack rack, int bus, int space, int part) {
+            int device = rack.deviceAt(bus, part / REGIONS);
             int region = part % REGIONS;
             if (rack.isCard(device) && rack.regionSpaces[regionIndex(device, region)] == space) {
                 return rack.regionBases[regionIndex(device, region)];
@@ -784,181 +778,155 @@ public final class BusRack {
             return NONE;
         }
 
-        /** The end of what the part covers; NONE if it covers nothing. */
-        private int coverEnd(int bus, int space, int part) {
-            int start = coverStart(bus, space, part);
-            int device = rack.deviceOfPart(bus, part);
-            if (start == NONE) {
-                return NONE;
-            }
+        /** How many addresses the part covers if it covers any. */
+        private static int coverSize(Rack rack, int bus, int space, int part) {
+            int device = rack.deviceAt(bus, part / REGIONS);
             if (rack.isCard(device)) {
-                return start + rack.regionSizes[regionIndex(device, part % REGIONS)];
+                return rack.regionSizes[regionIndex(device, part % REGIONS)];
             }
-            return rack.isBridge(device) ? start + rack.windowSizes[windowIndex(device, space)] : NONE;
+            return rack.isBridge(device) ? rack.windowSizes[windowIndex(device, space)] : 0;
         }
 
         /** What the parts cover is in the room, and no two parts cover the same address. */
-        int countFree(int bus, int space) {
-            int free = extentOf(bus, space);
+        static int countFree(Rack rack, int bus, int space) {
+            int free = extentOf(rack, bus, space);
             for (int part = 0; part < PARTS; part++) {
-                free -= coverEnd(bus, space, part) - coverStart(bus, space, part);
+                if (coverStart(rack, bus, space, part) != NONE) {
+                    free -= coverSize(rack, bus, space, part);
+                }
             }
             return free;
         }
 
         /** Each pass but the last one goes beyond a part, and there are only so many of them. */
-        int fitIn(int bus, int space, int size, int alignment) {
-            int end = startOf(bus, space) + extentOf(bus, space);
-            int start = roundUp(startOf(bus, space), alignment);
+        static int fitIn(Rack rack, int bus, int space, int size, int alignment) {
+            int end = startOf(rack, bus, space) + extentOf(rack, bus, space);
+            int start = roundUp(startOf(rack, bus, space), alignment);
             for (int pass = 0; pass <= PARTS && start + size <= end; pass++) {
-                int obstacle = partWithin(bus, space, start, start + size);
-                if (obstacle == NONE) {
+                int coverEnd = endOfCover(rack, bus, space, start, start + size);
+                if (coverEnd == NONE) {
                     return start;
                 }
-                start = roundUp(coverEnd(bus, space, obstacle), alignment);
+                start = roundUp(coverEnd, alignment);
             }
             return NONE;
         }
 
-        private int partWithin(int bus, int space, int start, int end) {
+        /** The end of a part that covers addresses from start to before end; NONE without one. */
+        private static int endOfCover(Rack rack, int bus, int space, int start, int end) {
             for (int part = 0; part < PARTS; part++) {
-                if (coverStart(bus, space, part) < end && coverEnd(bus, space, part) > start) {
-                    return part;
+                int from = coverStart(rack, bus, space, part);
+                int to = from + coverSize(rack, bus, space, part);
+                if (from != NONE && from < end && to > start) {
+                    return to;
                 }
             }
             return NONE;
         }
     }
 
-    /**
-     * Needs, and placing by them. The rows hold what was measured last. The start of an item is
-     * kept from the start of its bus: that starts at a multiple of the item's alignment, so
-     * packing goes the same way from there as from 0.
-     */
+    /** Needs, and placing by them. The rows are used again for each space and each bus. */
     private static final class Layout {
-        private final Rack rack;
-        private final int[] needs = new int[DEVICES];
-        private final int[] alignments = new int[DEVICES];
-        private final int[] starts = new int[DEVICES * REGIONS];
+        /** What was measured last, of all bridges. */
+        final int[] needs = new int[DEVICES];
+        final int[] alignments = new int[DEVICES];
+        /** The items that were listed last, by the parts of their bus; the size of no item is 0. */
+        private final int[] itemSizes = new int[PARTS];
+        private final int[] itemAlignments = new int[PARTS];
+        /** The starts of these items, NONE if left out. */
+        private final int[] starts = new int[PARTS];
+        private final int[] waitingBuses = new int[BUSES];
+        private int waiting = 0;
 
-        Layout(Rack rack) {
-            this.rack = rack;
+        /** The deepest bridges come first, because a need is made of the needs below. */
+        void measure(Rack rack, int space) {
+            for (int depth = DEEPEST; depth > 0; depth--) {
+                for (int bridge = 0; bridge < DEVICES; bridge++) {
+                    if (rack.isBridge(bridge) && rack.depthOfBus(bridge) == depth) {
+                        measureBridge(rack, bridge, space);
+                    }
+                }
+            }
         }
 
-        /** No region and no bridge may be placed in the space before. */
-        void placeAll(int space) {
-            measureBus(ROOT, space, addressesOf(space), 1);
-            placeBus(ROOT, space, 0, 1);
+        private void measureBridge(Rack rack, int bridge, int space) {
+            listItems(rack, bridge, space);
+            needs[bridge] = pack(space, 0, NO_LIMIT) + rack.reserves[windowIndex(bridge, space)];
+            alignments[bridge] = greatestAlignment(space);
         }
 
-        /** Answers the need. */
-        int measureBridge(int bridge, int space) {
-            measureBridge(bridge, space, 1);
-            return needs[bridge];
+        private void listItems(Rack rack, int bus, int space) {
+            for (int part = 0; part < PARTS; part++) {
+                int device = rack.deviceAt(bus, part / REGIONS);
+                int region = part % REGIONS;
+                itemSizes[part] = 0;
+                if (rack.isCard(device) && rack.regionSpaces[regionIndex(device, region)] == space) {
+                    itemSizes[part] = rack.regionSizes[regionIndex(device, region)];
+                    itemAlignments[part] = itemSizes[part];
+                }
+                if (rack.isNumbered(device) && region == 0) {
+                    itemSizes[part] = needs[device];
+                    itemAlignments[part] = alignments[device];
+                }
+            }
         }
 
-        /** The alignment in the space that was measured last. */
-        int alignmentOf(int bridge) {
-            return alignments[bridge];
+        private int greatestAlignment(int space) {
+            int greatest = grainOf(space);
+            for (int part = 0; part < PARTS; part++) {
+                if (itemSizes[part] > 0) {
+                    greatest = Math.max(greatest, itemAlignments[part]);
+                }
+            }
+            return greatest;
         }
 
-        /** Answers how many regions get a base; the bridge has to be measured just before. */
-        int placeBridge(int bridge, int space, int start) {
-            return placeBridge(bridge, space, start, 1);
-        }
-
-        private void measureBridge(int bridge, int space, int depth) {
-            int end = measureBus(bridge, space, Integer.MAX_VALUE, depth + 1);
-            needs[bridge] = end + rack.reserves[windowIndex(bridge, space)];
-            alignments[bridge] = greatestAlignment(bridge, space);
-        }
-
-        /** Answers the end of packing; an item that would end beyond the limit is left out. */
-        private int measureBus(int bus, int space, int limit, int depth) {
-            measureBridgesOn(bus, space, depth);
-            int position = 0;
-            for (int alignment = largestSizeOf(space); alignment >= grainOf(space); alignment /= 2) {
+        /** Answers the position at the end; an item that would end beyond the limit is left out. */
+        private int pack(int space, int from, int limit) {
+            Arrays.fill(starts, NONE);
+            int position = from;
+            for (int exponent = largestExponentOf(space); exponent >= 0; exponent--) {
+                int alignment = grainOf(space) << exponent;
                 for (int part = 0; part < PARTS; part++) {
-                    if (itemAlignment(bus, space, part) == alignment) {
-                        position = pack(bus, part, roundUp(position, alignment), limit, position);
+                    int start = roundUp(position, alignment);
+                    boolean isNext = itemSizes[part] > 0 && itemAlignments[part] == alignment;
+                    if (isNext && start + itemSizes[part] <= limit) {
+                        starts[part] = start;
+                        position = start + itemSizes[part];
                     }
                 }
             }
             return position;
         }
 
-        private void measureBridgesOn(int bus, int space, int depth) {
-            for (int slot = 0; slot < SLOTS && depth <= DEEPEST; slot++) {
-                int device = rack.deviceAt(bus, slot);
-                if (rack.isBridge(device)) {
-                    measureBridge(device, space, depth);
-                }
-            }
-        }
-
-        private int pack(int bus, int part, int start, int limit, int position) {
-            int device = rack.deviceOfPart(bus, part);
-            if (!rack.isDevice(device)) {
-                return position;
-            }
-            int index = regionIndex(device, part % REGIONS);
-            int itemSize = rack.isBridge(device) ? needs[device] : rack.regionSizes[index];
-            boolean fits = start <= limit - itemSize;
-            starts[index] = fits ? start : NONE;
-            return fits ? start + itemSize : position;
-        }
-
-        /** 0 if the part is no item of the bus in the space. */
-        private int itemAlignment(int bus, int space, int part) {
-            int device = rack.deviceOfPart(bus, part);
-            int region = part % REGIONS;
-            if (rack.isCard(device) && rack.regionSpaces[regionIndex(device, region)] == space) {
-                return rack.regionSizes[regionIndex(device, region)];
-            }
-            if (rack.isNumbered(device) && region == 0 && needs[device] > 0) {
-                return alignments[device];
-            }
-            return 0;
-        }
-
-        private int greatestAlignment(int bridge, int space) {
-            int greatest = grainOf(space);
-            for (int part = 0; part < PARTS; part++) {
-                greatest = Math.max(greatest, itemAlignment(bridge, space, part));
-            }
-            return greatest;
-        }
-
-        private int placeBridge(int bridge, int space, int start, int depth) {
-            rack.windowBases[windowIndex(bridge, space)] = start;
-            rack.windowSizes[windowIndex(bridge, space)] = needs[bridge];
-            return placeBus(bridge, space, start, depth + 1);
-        }
-
-        private int placeBus(int bus, int space, int busStart, int depth) {
+        /** Places what is below the bus, after measuring; answers how many regions get a base. */
+        int place(Rack rack, int bus, int space) {
+            waitingBuses[0] = bus;
+            waiting = 1;
             int placed = 0;
-            for (int part = 0; part < PARTS && depth <= DEEPEST; part++) {
-                if (itemAlignment(bus, space, part) > 0) {
-                    placed += placePart(bus, space, part, busStart, depth);
-                }
+            for (int next = 0; next < waiting && next < BUSES; next++) {
+                placed += placeItems(rack, waitingBuses[next], space);
             }
             return placed;
         }
 
-        private int placePart(int bus, int space, int part, int busStart, int depth) {
-            int device = rack.deviceOfPart(bus, part);
-            if (!rack.isDevice(device)) {
-                return 0;
+        private int placeItems(Rack rack, int bus, int space) {
+            listItems(rack, bus, space);
+            pack(space, Room.startOf(rack, bus, space), addressesOf(space));
+            int placed = 0;
+            for (int part = 0; part < PARTS; part++) {
+                int device = rack.deviceAt(bus, part / REGIONS);
+                if (starts[part] != NONE && rack.isCard(device)) {
+                    rack.regionBases[regionIndex(device, part % REGIONS)] = starts[part];
+                    placed++;
+                }
+                if (starts[part] != NONE && rack.isBridge(device) && waiting < BUSES) {
+                    rack.openWindow(device, space, starts[part], itemSizes[part]);
+                    waitingBuses[waiting] = device;
+                    waiting++;
+                }
             }
-            int index = regionIndex(device, part % REGIONS);
-            if (starts[index] == NONE) {
-                return 0;
-            }
-            if (rack.isBridge(device)) {
-                return placeBridge(device, space, busStart + starts[index], depth);
-            }
-            rack.regionBases[index] = busStart + starts[index];
-            return 1;
+            return placed;
         }
     }
 
