@@ -10,6 +10,8 @@ public final class NumbersTest {
         gapsEndAtFifteen();
         numbersRunOut();
         enumerateAnew();
+        enumerateTakesNumbersAway();
+        enumerateUpToFifteen();
         attachLeastNumber();
         attachBetween();
         attachWithoutNumber();
@@ -107,6 +109,40 @@ public final class NumbersTest {
         range(rack, 1, 1, 1);
         due("enumerate: the history", rack.undo(), 3);
         range(rack, 1, 2, 2);
+    }
+
+    private static void enumerateTakesNumbersAway() {
+        BusRack rack = Checks.enumerated("0b(0b(),1b(),2b(),3b(0b(0b()))),1b()");
+        range(rack, 0, 1, 7);
+        range(rack, 7, 8, 8);
+        rack.setGap(2);
+        rack.enumerate();
+        range(rack, 0, 1, 15);
+        range(rack, 7, NONE, NONE);
+        due("its number was taken away", rack.answer(8, 0), NONE);
+        rack = new BusRack();
+        rack.addBridge(ROOT, 3);
+        for (int slot = 0; slot < 3; slot++) {
+            rack.addBridge(ROOT, slot);
+            for (int lower = 0; lower < (slot == 2 ? 0 : 3); lower++) {
+                rack.addBridge(slot * 4 + 1, lower);
+            }
+        }
+        rack.enumerate();
+        range(rack, 0, 10, 10);
+        rack.setGap(1);
+        rack.enumerate();
+        range(rack, 1, 1, 8);
+        range(rack, 0, NONE, NONE);
+    }
+
+    private static void enumerateUpToFifteen() {
+        BusRack rack = withGap("0b(0b(0b(0b(0b())))),1b(0b()),2b(0b()),3b()", 1);
+        range(rack, 5, 11, 14);
+        range(rack, 7, 15, 15);
+        range(rack, 8, NONE, NONE);
+        range(rack, 9, NONE, NONE);
+        due("the bus 15", rack.answer(15, 0), 8);
     }
 
     private static void attachLeastNumber() {

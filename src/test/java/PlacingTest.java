@@ -14,6 +14,7 @@ public final class PlacingTest {
         leftOutAtTheRoot();
         leftOutPorts();
         windowNotPlaced();
+        enumerateTakesAllAway();
         attachCard();
         attachCardBothSpaces();
         attachKeepsBases();
@@ -90,9 +91,21 @@ public final class PlacingTest {
         rack.setReserve(1, MEMORY, 16);
         due("need with the reserve", rack.need(1, MEMORY), 160);
         due("need with the lower reserve", rack.need(0, MEMORY), 192);
+        needsOfFiveLevels();
         rack.setReserve(0, PORTS, 4);
         due("need with a ports reserve", rack.need(0, PORTS), 16);
         due("the window stays", rack.windowSize(0, PORTS), 12);
+    }
+
+    private static void needsOfFiveLevels() {
+        BusRack rack = Checks.loaded("0b(0b(0b(0b(0b()))))");
+        rack.setReserve(4, MEMORY, 32);
+        rack.enumerate();
+        for (int bridge = 0; bridge < 5; bridge++) {
+            window(rack, bridge, MEMORY, 0, 32);
+        }
+        rack.setReserve(4, MEMORY, 48);
+        due("need over five levels", rack.need(0, MEMORY), 48);
     }
 
     private static void needErrors() {
@@ -146,6 +159,20 @@ public final class PlacingTest {
         due("not placed in memory", rack.base(4, 0), NONE);
         due("the position did not change", rack.base(5, 0), 3072);
         due("numbered all the same", rack.firstNumber(3), 2);
+    }
+
+    private static void enumerateTakesAllAway() {
+        BusRack rack = Checks.enumerated("0cm5,1b(0cm0)");
+        rack.addCard(ROOT, 2);
+        rack.addCard(ROOT, 3);
+        for (int region = 0; region < 3; region++) {
+            rack.setRegion(3, region, MEMORY, 1024);
+        }
+        rack.setRegion(4, 0, MEMORY, 1024);
+        rack.setRegion(2, 0, MEMORY, 0);
+        due("no longer room", rack.enumerate(), 1);
+        due("the base is gone", rack.base(0, 0), NONE);
+        window(rack, 1, MEMORY, NONE, 0);
     }
 
     private static void attachCard() {
@@ -351,6 +378,8 @@ public final class PlacingTest {
         due("fit: bus before space", rack.firstFit(2, 2, 0), NO_SUCH);
         due("fit space 2", rack.firstFit(ROOT, 2, 16), BAD_VALUE);
         due("fit space -1", rack.firstFit(ROOT, -1, 16), BAD_VALUE);
+        due("fit beyond twelve regions", Checks.enumerated("0cm0m0m0,1cm0m0m0,2cm0m0m0,3cm0m0m0")
+                .firstFit(ROOT, MEMORY, 16), 192);
         int[] bad = {0, -16, 8, 24, 2048, Integer.MIN_VALUE};
         for (int size : bad) {
             due("fit size " + size, rack.firstFit(ROOT, MEMORY, size), BAD_VALUE);

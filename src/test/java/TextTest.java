@@ -95,6 +95,7 @@ public final class TextTest {
         due("slots count by bus", faultOf("0b(1b(0c),0"), 10);
         due("exponent m7", faultOf("0cm7"), 3);
         due("exponent p5", faultOf("0cp5"), 3);
+        due("a sign before the digits", faultOf("0cm/"), 3);
         due("exponent m6 then p5", faultOf("0cm6p5"), 5);
         due("no exponent", faultOf("0cmp"), 3);
         due("two digits", faultOf("0cm00"), 4);
@@ -167,6 +168,19 @@ public final class TextTest {
         rack = new BusRack();
         Checks.write(rack, "0b(0c,1c,2c,3c),1b(0c,1c,2c,3c),2b(0c)");
         due("twelve", rack.load(), 12);
+        rack = Checks.loaded("0b(0c,1c,2c,3c),1b(0c,1c,2c,3c),2b(0cm1p1)");
+        due("the twelfth card", rack.size(11, 1), 8);
+        rack.clearText();
+        Checks.write(rack, "0c,1b(),2b(0c)");
+        due("load another", rack.load(), 4);
+        due("nothing of the last text", rack.size(0, 0), 0);
+        rack.clearText();
+        Checks.write(rack, "0cm0m0m0,1c");
+        rack.load();
+        rack.clearText();
+        Checks.write(rack, "0cp0,1c");
+        due("load another", rack.load(), 2);
+        due("nothing of the last text", rack.size(0, 1), 0);
     }
 
     private static void loadTakesAllAway() {
