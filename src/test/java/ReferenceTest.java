@@ -1,7 +1,14 @@
-/** Long runs of mixed calls, each answer compared with that of PlainRack, and the whole state with it. */
+/**
+ * Runs of mixed calls, each answer compared with that of PlainRack. Half of the runs end with a
+ * look at the whole state; in the other half, each call is followed by a look at some of it.
+ */
 public final class ReferenceTest {
-    private static final int RUNS = 500;
-    private static final int CALLS = 120;
+    private static final int RUNS = 1000;
+    /** What later calls on one object answer is free. */
+    private static final int CALLS = 512;
+    /** No look at the whole state, and no writing of a text, takes more calls. */
+    private static final int MOST_LOOKS = 230, MOST_WRITING = 95;
+    private static final int LONGEST_TEXT = 90;
     private static final int[] EDGES = {-1, 5, 12, 13, 16, 24, 48, 80, 127, 256, 4096, -5, -100,
         Integer.MIN_VALUE, Integer.MAX_VALUE, Integer.MIN_VALUE + 1, 1 << 30};
 
@@ -10,6 +17,7 @@ public final class ReferenceTest {
     private BusRack rack;
     private PlainRack plain;
     private int run;
+    private int calls;
 
     public static void main(String[] args) {
         ReferenceTest test = new ReferenceTest();
@@ -21,14 +29,21 @@ public final class ReferenceTest {
 
     private void runOnce(int number) {
         run = number;
+        calls = 0;
         rack = new BusRack();
         plain = new PlainRack();
-        for (int call = 0; call < CALLS; call++) {
+        boolean isLong = number % 2 == 0;
+        int limit = CALLS - MOST_WRITING - (isLong ? 0 : MOST_LOOKS);
+        while (calls < limit) {
             callOnce();
-            if (call % 8 == 7) {
-                compareAll();
+            if (isLong && calls < limit) {
+                compareQueries();
             }
         }
+        if (!isLong) {
+            compareAll();
+        }
+        checks.due("run " + run + " has no more than " + CALLS + " calls", Math.max(calls, CALLS), CALLS);
     }
 
     private int below(int bound) {
@@ -56,6 +71,7 @@ public final class ReferenceTest {
     }
 
     private void due(String call, int got, int want) {
+        calls++;
         checks.due("run " + run + ": " + call, got, want);
     }
 
@@ -136,7 +152,7 @@ public final class ReferenceTest {
         if (below(6) == 0) {
             text.setLength(below(text.length() + 1));
         }
-        for (int i = 0; i < text.length(); i++) {
+        for (int i = 0; i < text.length() && i < LONGEST_TEXT; i++) {
             int character = text.charAt(i);
             due("append " + character, rack.append(character), plain.append(character));
         }
@@ -179,14 +195,8 @@ public final class ReferenceTest {
         for (int device = 0; device < 12; device++) {
             compareDevice(device);
         }
-        for (int number = 0; number < 16; number++) {
-            for (int slot = 0; slot < 4; slot++) {
-                due("answer " + number + " " + slot, rack.answer(number, slot), plain.answer(number, slot));
-            }
-        }
-        for (int i = 0; i < 8; i++) {
-            compareQueries();
-        }
+        compareQueries();
+        compareQueries();
     }
 
     private void compareDevice(int device) {
